@@ -1,0 +1,344 @@
+/** Promises 1 to 5: a new object, the tape, the text of an island and its faults. */
+public final class TextTest {
+    private static final String LEAST =
+        "way w sled weighs 1 pull 1;road r hollow 1 slopes up 1,down 2;statue a tons 1 lean 1 edge 1 cut";
+
+    public static void main(String[] args) {
+        newObject();
+        tape();
+        islandBegins();
+        islandStays();
+        faultAndWhere();
+        tokens();
+        form();
+        names();
+        bounds();
+        many();
+        lacks();
+        leastNumber();
+        Check.end("TextTest");
+    }
+
+    private static void newObject() {
+        StoneWalk x = new StoneWalk();
+        Check.due("trouble() of a new object", x.trouble(), 0);
+        Check.due("fault() of a new object", x.fault(), 0);
+        Check.due("where() of a new object", x.where(), -1);
+        for (int what = 0; what <= 10; what++) {
+            Check.due("size(" + what + ") of a new object", x.size(what), 0);
+        }
+        Check.due("statue(0, 0) of a new object", x.statue(0, 0), -1);
+        Check.due("forget() of a new object", x.forget(), 0);
+        Check.due(x, "likeliest()", x.likeliest(), -1, Check.NO_SUCH);
+        Check.due(x, "at(0)", x.at(0), -1, Check.NOTHING);
+        Check.due("NONE", StoneWalk.NONE, -1);
+    }
+
+    private static void tape() {
+        StoneWalk x = new StoneWalk();
+        for (int i = 1; i <= 45; i++) {
+            Check.due("feed " + i, x.feed(0, 0, 0, 0, 0), 20 * i);
+        }
+        x.island(901);
+        Check.due("feed 46", x.feed(0, 0, 0, 0, 0), -1);
+        Check.due("trouble() behind a feed without room", x.trouble(), Check.NUMBER);
+        Check.due("size(9)", x.size(9), 900);
+        // "way wa", the highest byte of each number first.
+        StoneWalk y = new StoneWalk();
+        y.feed(0x77617920, 0x77616c6b, 0x65642077, 0x616c6b65, 0x64207765);
+        y.feed(0x69676873, 0x20312070, 0x756c6c20, 0x31202020, 0x202020FF);
+        Check.due(y, "island(40)", y.island(40), -1, Check.FAULT);
+        Check.due("fault()", y.fault(), 1);
+        Check.due("where()", y.where(), 39);
+    }
+
+    private static void islandBegins() {
+        StoneWalk x = Check.told(Check.WHOLE_ISLAND);
+        Check.due("trouble() behind an island", x.trouble(), 0);
+        Check.due("size(9) behind an island", x.size(9), 0);
+        x.see(1, 2, 3);
+        x.seed(77);
+        x.move(0, 0, 0, 100);
+        Check.feed(x, LEAST + ";statue b tons 2 lean 2 edge 2 large;try n tons 1 lean 1 edge 1 up 1");
+        // A part of the tape is enough, and the rest of it goes too.
+        Check.due(x, "island of a part", x.island(LEAST.length()), 1, 0);
+        Check.due("size(9)", x.size(9), 0);
+        Check.due("size(0)", x.size(0), 1);
+        Check.due("size(1)", x.size(1), 1);
+        Check.due("size(2)", x.size(2), 1);
+        Check.due("size(3)", x.size(3), 0);
+        Check.due("size(6)", x.size(6), 0);
+        Check.due("size(7), nothing seen", x.size(7), 0);
+        Check.due("size(8), seed 0", x.size(8), 0);
+        Check.due("size(10), none lies", x.size(10), 0);
+        Check.due(x, "step()", x.step(), -1, Check.NOTHING);
+        Check.due("fault()", x.fault(), 0);
+        Check.due("how it lies", x.statue(0, 4), -2);
+    }
+
+    private static void islandStays() {
+        StoneWalk x = Check.told(Check.WHOLE_ISLAND);
+        x.see(1, 2, 3);
+        x.move(0, 0, 0, 100);
+        x.seed(77);
+        Check.feed(x, LEAST);
+        Check.due(x, "island(-1)", x.island(-1), -1, Check.NUMBER);
+        Check.due(x, "island(101)", x.island(101), -1, Check.NUMBER);
+        Check.due("size(9), the tape stays", x.size(9), 100);
+        Check.due("fault() of the island before", x.fault(), 0);
+        Check.due(x, "island() of a faulty text", x.island(LEAST.length() - 1), -1, Check.FAULT);
+        Check.due("size(9), the tape goes", x.size(9), 0);
+        Check.due("size(2), the island stays", x.size(2), 7);
+        Check.due("size(7), what was seen stays", x.size(7), 1);
+        Check.due("size(8), the seed stays", x.size(8), 77);
+        Check.due(x, "at(8), the move stays", x.at(8), 100, 0);
+        Check.due("tons of b", x.statue(1, 0), 20);
+        Check.due(x, "hollow(0, 0)", x.hollow(0, 0), 8, 0);
+    }
+
+    private static void faultAndWhere() {
+        StoneWalk x = new StoneWalk();
+        Check.due(x, "island(0)", x.island(0), -1, Check.FAULT);
+        Check.due("fault()", x.fault(), 1);
+        Check.due("where()", x.where(), 0);
+        Check.due("where() again", x.where(), 0);
+        x.feed(0, 0, 0, 0, 0);
+        x.size(0);
+        x.forget();
+        x.statue(0, 0);
+        Check.due("where() behind calls that can't be refused", x.where(), 0);
+        x.step();
+        Check.due("where() behind another call", x.where(), -1);
+        Check.due("fault() behind another call", x.fault(), 1);
+        x.island(21);
+        Check.due("where() behind island() refused by 2", x.where(), -1);
+        Check.due("fault() behind island() refused by 2", x.fault(), 1);
+        x.island(20);
+        Check.tell(x, LEAST);
+        Check.due("fault() of a text without", x.fault(), 0);
+        Check.due("where() of a text without", x.where(), -1);
+    }
+
+    /** The fault of a text, and its place: how long what stands in front of it is. */
+    private static void fault(int number, String front, String rest) {
+        String text = front + rest;
+        StoneWalk x = new StoneWalk();
+        Check.due(x, "island() of " + text, Check.tell(x, text), -1, Check.FAULT);
+        Check.due("fault() of " + text, x.fault(), number);
+        Check.due("where() of " + text, x.where(), front.length());
+    }
+
+    private static void sound(String text) {
+        StoneWalk x = new StoneWalk();
+        Check.tell(x, text);
+        Check.due("fault() of " + text, x.fault(), 0);
+        Check.due("trouble() of " + text, x.trouble(), 0);
+    }
+
+    private static void tokens() {
+        sound("  " + LEAST.replace(" ", "   ").replace(",", " , ").replace(";", " ; ") + "  ");
+        sound("way w sled weighs1pull1;road r hollow1slopes up1,down2;statue a tons1lean1edge1cut");
+        sound(LEAST + ";way abcdefgh walked weighs 001 pull 07");
+        fault(1, "way ", "abcdefghi sled");
+        fault(1, "way w sled weighs ", "0001 pull 1");
+        fault(1, "", "Way w");
+        fault(1, "way w", "\u0001");
+        fault(1, "way w sled", ".");
+        fault(1, "way w sled weighs 1 ", "\n");
+        fault(1, "way w sled weighs ", "-1");
+        fault(1, "way w sled weighs 1 pull 1 ", "{");
+        fault(1, "way w sled weighs 1 pull 1 ", "`");
+        fault(1, "way w sled weighs 1 pull 1 ", "/");
+        fault(1, "way w sled weighs 1 pull 1 ", ":");
+        fault(1, "way w sled weighs 1 pull 1 ", "\u00e9");
+    }
+
+    private static void form() {
+        fault(1, "", "w sled");
+        fault(1, "", ";");
+        fault(1, "", "5");
+        fault(1, "way ", "5");
+        fault(1, "way w ", "w");
+        fault(1, "way w sled ", "pull");
+        fault(1, "way w sled weighs ", "pull");
+        fault(1, "way w sled weighs 1 ", "weighs");
+        fault(1, "way w sled weighs 1 pull 1 ", "pull");
+        fault(1, "way w sled weighs 1 pull 1 ", ",");
+        fault(1, "way w sled weighs 1 pull 1 ", "1");
+        fault(1, LEAST + ";", "");
+        fault(1, LEAST + ";  ", "");
+        fault(1, LEAST + ";", ";" + "way v sled weighs 1 pull 1");
+        fault(1, "road r ", "slopes");
+        fault(1, "road r hollow 1 ", "up");
+        fault(1, "road r hollow 1 slopes ", "level 1");
+        fault(1, "road r hollow 1 slopes up 1,", ";");
+        fault(1, "road r hollow 1 slopes up 1 ", "up 1");
+        fault(1, LEAST + ";statue b tons 1 lean 1 edge 1 ", "fallen");
+        fault(1, LEAST + ";statue b tons 1 lean 1 edge 1 lies ", "up");
+        fault(1, LEAST + ";statue b tons 1 lean 1 edge 1 lies face ", "at");
+        fault(1, LEAST + ";statue b tons 1 lean 1 edge 1 lies face on r ", "on");
+        fault(1, LEAST + ";statue b tons 1 lean 1 edge 1 lies face on r at ", "r");
+        fault(1, LEAST + ";statue b tons 1 lean 1 ", "tons");
+        fault(1, LEAST + ";trial t ", "tons");
+        fault(1, LEAST + ";trial t of ", "1");
+        fault(1, LEAST + ";trial t of w tons 1 people 1 ", "minutes");
+        fault(1, LEAST + ";land ", "1");
+        fault(1, LEAST + ";land trees 1 grows 1 ", "feeds");
+        fault(1, LEAST + ";fields ", "feeds");
+        fault(1, LEAST + ";fields 1 ", "holds");
+        fault(1, LEAST + ";houses 1 holds 1 ", "2");
+        fault(1, LEAST + ";houses 1 holds 1 to ", "to");
+        fault(1, LEAST + ";story s weighs 1 ", "burnt");
+        fault(1, LEAST + ";story s weighs 1 rats ", "every");
+        fault(1, LEAST + ";story s weighs 1 rats 1 ", "every 1");
+        fault(1, LEAST + ";story s weighs 1 fires 1", "");
+        fault(1, LEAST + ";teller o year ", "means");
+        fault(1, LEAST + ";teller o year 1 means ", "stranger");
+        fault(1, LEAST + ";teller o year 1 means w ", "w");
+        fault(1, LEAST + ";teller o year 1 means w stranger ", ",w");
+        fault(1, LEAST + ";teller o year 1 means w,", "");
+        fault(1, LEAST + ";try p tons 1 lean 1 edge 1 ", "cut");
+        fault(1, LEAST + ";try p tons 1 lean 1 edge 1 up 1", ",up 1");
+        sound(LEAST + ";teller o year 0 means w stranger;teller p year 999 means w");
+    }
+
+    private static void names() {
+        String[] taken = {"way", "road", "statue", "trial", "land", "fields", "houses", "story",
+            "teller", "try", "up", "down", "stranger"};
+        for (String word : taken) {
+            fault(1, "way ", word + " sled");
+            fault(1, LEAST + ";trial t of ", word);
+        }
+        String[] free = {"walked", "sled", "weighs", "pull", "hollow", "slopes", "tons", "lean",
+            "edge", "cut", "lies", "face", "on", "at", "of", "to", "year", "means", "rats"};
+        for (String word : free) {
+            sound(LEAST + ";way " + word + " walked weighs 1 pull 1;trial t of " + word
+                + " tons 1 people 1 yards 1 minutes 1");
+        }
+        fault(2, LEAST + ";trial t of ", "v tons 1");
+        fault(2, LEAST + ";trial t of ", "r tons 1");
+        fault(2, LEAST + ";trial t of ", "t tons 1");
+        fault(2, LEAST + ";teller o year 1 means ", "a");
+        fault(2, LEAST + ";teller o year 1 means w,", "b");
+        fault(2, "statue a tons 1 lean 1 edge 1 lies face on ", "r at 0");
+        fault(2, LEAST + ";statue b tons 1 lean 1 edge 1 lies face on ", "w at 0");
+        // Told ahead of its use, not behind it.
+        fault(2, "trial t of ", "w tons 1;way w sled weighs 1 pull 1");
+        fault(3, LEAST + ";way ", "w sled");
+        fault(3, LEAST + ";road ", "w");
+        fault(3, LEAST + ";statue ", "r");
+        fault(3, LEAST + ";trial ", "a");
+        fault(3, LEAST + ";story ", "w");
+        fault(3, LEAST + ";teller ", "w");
+        fault(3, LEAST + ";try ", "a");
+        fault(3, LEAST + ";teller o year 1 means w,", "w");
+        fault(3, LEAST + ";way v sled weighs 1 pull 1;teller o year 1 means v,w,", "v");
+        fault(3, LEAST + ";land trees 1 grows 1 people 1;", "land");
+        fault(3, LEAST + ";fields 1 feeds 1;", "fields");
+        fault(3, LEAST + ";houses 1 holds 1 to 1;", "houses");
+        sound(LEAST + ";way abcdefg walked weighs 1 pull 1;way abcdefh walked weighs 1 pull 1");
+    }
+
+    /** A WHOLE from low to high stands between two parts of a text. */
+    private static void bounded(String front, int low, int high, String behind) {
+        sound(LEAST + ";" + front + low + behind);
+        sound(LEAST + ";" + front + high + behind);
+        if (low > 0) {
+            fault(4, LEAST + ";" + front, low - 1 + behind);
+        }
+        if (high < 999) {
+            fault(4, LEAST + ";" + front, high + 1 + behind);
+        }
+    }
+
+    private static void bounds() {
+        bounded("way v sled weighs ", 1, 99, " pull 1");
+        bounded("way v sled weighs 1 pull ", 1, 20, "");
+        bounded("road q hollow ", 0, 9, " slopes up 1");
+        bounded("road q hollow 1 slopes up ", 0, 20, "");
+        bounded("road q hollow 1 slopes up 1, down ", 0, 20, "");
+        bounded("statue b tons ", 1, 99, " lean 1 edge 1 cut");
+        bounded("statue b tons 1 lean ", 0, 30, " edge 1 cut");
+        bounded("statue b tons 1 lean 1 edge ", 0, 20, " cut");
+        bounded("statue b tons 1 lean 1 edge 1 lies side on r at ", 0, 1, "");
+        bounded("road q hollow 1 slopes up 1,up 1,up 1,up 1,up 1,up 1;"
+            + "statue b tons 1 lean 1 edge 1 lies side on q at ", 0, 5, "");
+        bounded("trial t of w tons ", 1, 99, " people 1 yards 1 minutes 1");
+        bounded("trial t of w tons 1 people ", 1, 200, " yards 1 minutes 1");
+        bounded("trial t of w tons 1 people 1 yards ", 1, 999, " minutes 1");
+        bounded("trial t of w tons 1 people 1 yards 1 minutes ", 1, 999, "");
+        bounded("land trees ", 0, 999, " grows 1 people 1");
+        bounded("land trees 1 grows ", 0, 50, " people 1");
+        bounded("land trees 1 grows 1 people ", 0, 999, "");
+        bounded("fields ", 0, 999, " feeds 1");
+        bounded("fields 1 feeds ", 0, 99, "");
+        bounded("houses ", 0, 999, " holds 1 to 1");
+        bounded("houses 1 holds ", 0, 20, " to 40");
+        bounded("houses 1 holds 7 to ", 7, 40, "");
+        bounded("story s weighs ", 1, 99, " rats 1");
+        bounded("story s weighs 1 felled ", 0, 99, "");
+        bounded("story s weighs 1 rats ", 0, 100, "");
+        bounded("story s weighs 1 fires ", 0, 100, " every 1");
+        bounded("story s weighs 1 fires 1 every ", 1, 50, "");
+        bounded("teller o year ", 0, 999, " means w");
+        bounded("try p tons ", 1, 99, " lean 1 edge 1 up 1");
+        bounded("try p tons 1 lean ", 0, 30, " edge 1 up 1");
+        bounded("try p tons 1 lean 1 edge ", 0, 20, " up 1");
+        bounded("try p tons 1 lean 1 edge 1 up ", 0, 20, "");
+        bounded("try p tons 1 lean 1 edge 1 down ", 0, 20, "");
+    }
+
+    /** So many LINES beside the least text, then one more of them; "#" is a NAME. */
+    private static void room(int more, String line) {
+        StringBuilder text = new StringBuilder(LEAST);
+        for (int i = 0; i < more; i++) {
+            text.append(';').append(line.replace('#', (char) ('f' + i)));
+        }
+        sound(text.toString());
+        fault(5, text + ";", line.substring(0, line.indexOf(' ')));
+    }
+
+    private static void many() {
+        room(3, "way # sled weighs 1 pull 1");
+        room(2, "road # hollow 1 slopes up 1");
+        room(9, "statue # tons 1 lean 1 edge 1 cut");
+        room(5, "trial # of w tons 1 people 1 yards 1 minutes 1");
+        room(5, "story # weighs 1 rats 1");
+        room(3, "teller # year 1 means w");
+        room(5, "try # tons 1 lean 1 edge 1 up 1");
+        String six = ";road q hollow 1 slopes up 1,up 1,up 1,up 1,up 1,up 1";
+        sound(LEAST + six);
+        fault(5, LEAST + six + ",", "up 1");
+        fault(5, LEAST + six + ",", "down 1");
+        fault(1, LEAST + six + ",", "cut");
+        StringBuilder eight = new StringBuilder(LEAST);
+        for (int i = 0; i < 8; i++) {
+            eight.append(";statue ").append((char) ('f' + i));
+            eight.append(" tons 1 lean 1 edge 1 lies face on r at 0");
+        }
+        sound(eight.toString());
+        sound(eight + ";statue s tons 1 lean 1 edge 1 stood");
+        fault(5, eight + ";statue s tons 1 lean 1 edge 1 ", "lies face on r at 0");
+        fault(1, eight + ";statue s tons 1 lean 1 edge 1 ", "lay");
+    }
+
+    private static void lacks() {
+        String way = "way w sled weighs 1 pull 1";
+        String road = "road r hollow 1 slopes up 1";
+        String statue = "statue a tons 1 lean 1 edge 1 cut";
+        fault(6, road + ";" + statue, "");
+        fault(6, way + ";" + statue, "");
+        fault(6, way + ";" + road + "   ", "");
+        fault(6, "land trees 1 grows 1 people 1", "");
+        sound(statue + ";" + road + ";" + way);
+    }
+
+    private static void leastNumber() {
+        // The first from the left, whatever its number.
+        fault(4, "way w sled weighs ", "0 pull 1; !");
+        fault(6, "way w sled weighs 1 pull 1", "");
+        fault(1, "way w sled weighs 1 pull", "");
+        fault(1, "way w sled weighs 1 pull 1;", "");
+        fault(3, "way w sled weighs 1 pull 1;way ", "w flown");
+    }
+}
