@@ -230,6 +230,17 @@ public final class GoingTest {
             + "statue a tons 10 lean 20 edge 9 cut");
         // Dragged 84, by sled 70; rolled it can't go up 8.
         Check.due(z, "easiest over up 8", z.easiest(0, 0), 1, 0);
+        // 2 each on the level, but 3 and 2 up 8, wherever that is.
+        String two = "way l sled weighs 1 pull 10;way m sled weighs 1 pull 14;"
+            + "statue a tons 1 lean 20 edge 9 cut;road r hollow 1 slopes ";
+        StoneWalk u = Check.told(two + "up 8,up 0");
+        Check.due(u, "easiest, the first slope the worst", u.easiest(0, 0), 1, 0);
+        Check.tell(u, two + "up 0,up 8");
+        Check.due(u, "easiest, the last slope the worst", u.easiest(0, 0), 1, 0);
+        for (int i = 0; i < 2; i++) {
+            Check.tell(u, two + "up 0");
+            Check.due(u, "easiest on the level", u.easiest(0, 0), 0, 0);
+        }
     }
 
     private static void withoutIsland() {

@@ -280,6 +280,7 @@ public final class MoveTest {
         Check.due(x, "image() without a move", x.image(), -1, Check.NOTHING);
         x.seed(65536);
         x.move(1, 3, 2, 200);
+        x.at(9);
         Check.due(x, "image() of a beginning", x.image(), image(65536, 1, 0, 0, 3, 1, 3, 2, 200), 0);
         x.move(0, 0, 0, 90);
         x.step();
@@ -339,6 +340,10 @@ public final class MoveTest {
         Check.yes(x, "call(72)", x.call(72));
         Check.due(x, "step() behind call()", x.step(), 1, 0);
         Check.due(x, "tries(2) behind restore()", x.tries(2), 0, 0);
+        state(x, 1, 2, 150, 40, -2, 0, 0, 0, 72);
+        Check.due(x, "step() up 10 with 72", x.step(), 5, 0);
+        Check.no(x, "restore(0)", x.restore(0), Check.NUMBER);
+        state(x, 5, 2, 150, 40, -2, 0, 0, 0, 72);
     }
 
     private static void refused(StoneWalk x, long image) {

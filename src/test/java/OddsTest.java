@@ -27,6 +27,7 @@ public final class OddsTest {
     private static void odds() {
         StoneWalk x = Check.told(Check.WHOLE_ISLAND);
         Check.due(x, "odds(0)", x.odds(0), 50 * 8 * 7 * 8 * 2 * 8 * 9, 0);
+        x.odds(9);
         Check.due(x, "odds(1)", x.odds(1), 30 * 2 * 2 * 9 * 3, 0);
         Check.due(x, "odds(2)", x.odds(2), 20 * 3 * 3 * 3 * 7 * 3 * 3, 0);
         Check.due(x, "odds(3)", x.odds(3), 10 * 6 * 4 * 6 * 4 * 6 * 3, 0);
@@ -200,6 +201,9 @@ public final class OddsTest {
         u.turn(1, 2);
         // Walked 56, by sled 108; without a 8 and 54; without b 56 and 18.
         Check.due(u, "hangs() of b", u.hangs(), 1, 0);
+        StoneWalk first = Check.told(TWO_WAYS + ";statue b tons 1 lean 1 edge 1 lies side on r at 1"
+            + ";statue a tons 1 lean 1 edge 1 lies face on r at 0");
+        Check.due(first, "hangs() of the first", first.hangs(), 0, 0);
         StoneWalk none = Check.told(TWO_WAYS + ";statue c tons 1 lean 1 edge 1 cut");
         Check.due(none, "hangs() if none lies", none.hangs(), -2, 0);
     }

@@ -16,6 +16,8 @@ public final class TextTest {
         many();
         lacks();
         leastNumber();
+        anyOrder();
+        nothingLeft();
         Check.end("TextTest");
     }
 
@@ -233,6 +235,11 @@ public final class TextTest {
         fault(3, LEAST + ";try ", "a");
         fault(3, LEAST + ";teller o year 1 means w,", "w");
         fault(3, LEAST + ";way v sled weighs 1 pull 1;teller o year 1 means v,w,", "v");
+        String ways = "way v sled weighs 1 pull 1;way u sled weighs 1 pull 1;"
+            + "way x sled weighs 1 pull 1;teller o year 1 means v,w,x,u";
+        sound(LEAST + ";" + ways);
+        fault(3, LEAST + ";" + ways + ",", "w");
+        fault(2, LEAST + ";" + ways + ",", "a");
         fault(3, LEAST + ";land trees 1 grows 1 people 1;", "land");
         fault(3, LEAST + ";fields 1 feeds 1;", "fields");
         fault(3, LEAST + ";houses 1 holds 1 to 1;", "houses");
@@ -340,5 +347,61 @@ public final class TextTest {
         fault(1, "way w sled weighs 1 pull", "");
         fault(1, "way w sled weighs 1 pull 1;", "");
         fault(3, "way w sled weighs 1 pull 1;way ", "w flown");
+    }
+
+    /** LINES in another order than the document's, but for NAMES, told ahead of their use. */
+    private static void anyOrder() {
+        StoneWalk x = Check.told("houses 3 holds 1 to 2;fields 4 feeds 5;"
+            + "land trees 100 grows 4 people 50;try p tons 5 lean 6 edge 7 down 2;"
+            + "story s weighs 8 rats 9;road r hollow 1 slopes up 3,up 2;way w sled weighs 4 pull 5;"
+            + "teller o year 1 means w;trial t of w tons 9 people 8 yards 7 minutes 6;"
+            + "statue a tons 5 lean 4 edge 3 lies back on r at 1;statue b tons 2 lean 1 edge 0 stood");
+        for (int what = 0; what <= 6; what++) {
+            Check.due("size(" + what + ")", x.size(what), what == 2 ? 2 : 1);
+        }
+        int[] a = {5, 4, 3, 5, 1, 0, 1};
+        for (int what = 0; what < a.length; what++) {
+            Check.due("statue(0, " + what + ")", x.statue(0, what), a[what]);
+        }
+        Check.due(x, "canOn(0, 0, 0)", x.canOn(0, 0, 0), 3, 0);
+        Check.due(x, "people(0, 9, true)", x.people(0, 9, true), 8, 0);
+        Check.due(x, "takes(0, 7, true)", x.takes(0, 7, true), 6, 0);
+        Check.due(x, "told(0, 0)", x.told(0, 0), 6, 0);
+        Check.due(x, "weight()", x.weight(), 8, 0);
+        Check.due(x, "tryout()", x.tryout(), 0, 0);
+        Check.due(x, "lived(true)", x.lived(true), 6, 0);
+        // Only one road, one teller, one way, and so on: what is next isn't there.
+        Check.due(x, "canOn(0, 0, 1)", x.canOn(0, 0, 1), -1, Check.NO_SUCH);
+        Check.due(x, "easiest(0, 1)", x.easiest(0, 1), -1, Check.NO_SUCH);
+        Check.due(x, "can(1, 0, 0)", x.can(1, 0, 0), -1, Check.NO_SUCH);
+        Check.due(x, "can(0, 2, 0)", x.can(0, 2, 0), -1, Check.NO_SUCH);
+        Check.due(x, "told(0, 1)", x.told(0, 1), -1, Check.NO_SUCH);
+        Check.due(x, "trees(1, 0)", x.trees(1, 0), -1, Check.NO_SUCH);
+        Check.due(x, "off(1)", x.off(1), -1000, Check.NO_SUCH);
+        Check.due(x, "hollow(0, 1)", x.hollow(0, 1), -1, Check.NO_SUCH);
+    }
+
+    /** Island behind island: nothing of the ones before is left. */
+    private static void nothingLeft() {
+        StringBuilder lying = new StringBuilder(LEAST);
+        for (char name = 'f'; name < 'n'; name++) {
+            lying.append(";statue ").append(name).append(" tons 1 lean 1 edge 1 lies face on r at 0");
+        }
+        StoneWalk x = new StoneWalk();
+        for (int i = 0; i < 4; i++) {
+            Check.due(x, "island of nine", Check.tell(x, lying.toString()), 9, 0);
+            Check.due("size(10)", x.size(10), 8);
+            Check.due(x, "canOn(0, 0, 0)", x.canOn(0, 0, 0), 3, 0);
+        }
+        String ways = "way w sled weighs 1 pull 1;way v sled weighs 1 pull 2;"
+            + "road r hollow 1 slopes up 1;statue a tons 1 lean 1 edge 1 cut;teller o year 1 means ";
+        StoneWalk y = new StoneWalk();
+        for (int i = 0; i < 4; i++) {
+            Check.due(y, "island", Check.tell(y, ways + (i < 2 ? "w" : "v")), 1, 0);
+            Check.due(y, "told(0, 0)", y.told(0, 0), i < 2 ? 6 : 4, 0);
+            Check.due(y, "told(1, 0)", y.told(1, 0), i < 2 ? 4 : 6, 0);
+            Check.due(y, "canOn(0, 0, 0)", y.canOn(0, 0, 0), 1, 0);
+            Check.due("size(10)", y.size(10), 0);
+        }
     }
 }
