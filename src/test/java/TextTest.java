@@ -370,6 +370,7 @@ public final class TextTest {
         Check.due(x, "weight()", x.weight(), 8, 0);
         Check.due(x, "tryout()", x.tryout(), 0, 0);
         Check.due(x, "lived(true)", x.lived(true), 6, 0);
+        sound(LEAST + ";teller o year 1 means w;story s weighs 8 rats 9;houses 3 holds 1 to 2");
         // Only one road, one teller, one way, and so on: what is next isn't there.
         Check.due(x, "canOn(0, 0, 1)", x.canOn(0, 0, 1), -1, Check.NO_SUCH);
         Check.due(x, "easiest(0, 1)", x.easiest(0, 1), -1, Check.NO_SUCH);

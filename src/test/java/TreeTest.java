@@ -167,6 +167,9 @@ public final class TreeTest {
         StoneWalk y = land("trees 49 grows 0 people 0;story s weighs 1 felled 0;"
             + "story h weighs 1 fires 50 every 50");
         Check.due(y, "dig() of alike years", y.dig(), 50, 0);
+        StoneWalk z = land("trees 50 grows 0 people 0;story s weighs 1 felled 0;"
+            + "story h weighs 1 fires 3 every 50");
+        Check.due(z, "dig() of one tree's difference", z.dig(), 50, 0);
         StoneWalk none = land("trees 1 grows 1 people 1");
         Check.due(none, "dig() without stories", none.dig(), -1, Check.NOTHING);
     }
