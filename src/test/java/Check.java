@@ -42,6 +42,23 @@ final class Check {
         due(what, got ? 1 : 0, want ? 1 : 0);
     }
 
+    /** Lines that are due; only the first that differs is printed. */
+    static void same(String what, String got, String want) {
+        calls++;
+        if (got.equals(want)) {
+            return;
+        }
+        wrong++;
+        String[] lines = got.split("\n");
+        String[] dueLines = want.split("\n");
+        int i = 0;
+        while (i < lines.length && i < dueLines.length && lines[i].equals(dueLines[i])) {
+            i++;
+        }
+        System.out.println(what + ": " + (i < lines.length ? lines[i] : "nothing more") + ", due is "
+            + (i < dueLines.length ? dueLines[i] : "nothing more"));
+    }
+
     /** A call that may be refused: its answer, and what trouble() tells of it. */
     static void due(StoneWalk x, String what, long got, long want, int trouble) {
         due(what, got, want);

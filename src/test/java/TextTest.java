@@ -1,7 +1,6 @@
 /** Promises 1 to 5: a new object, the tape, the text of an island and its faults. */
 public final class TextTest {
-    private static final String LEAST =
-        "way w sled weighs 1 pull 1;road r hollow 1 slopes up 1,down 2;statue a tons 1 lean 1 edge 1 cut";
+    private static final String LEAST = Text.LEAST;
 
     public static void main(String[] args) {
         newObject();
@@ -12,8 +11,6 @@ public final class TextTest {
         tokens();
         form();
         names();
-        bounds();
-        many();
         lacks();
         leastNumber();
         anyOrder();
@@ -121,232 +118,133 @@ public final class TextTest {
         Check.due("where() of a text without", x.where(), -1);
     }
 
-    /** The fault of a text, and its place: how long what stands in front of it is. */
-    private static void fault(int number, String front, String rest) {
-        String text = front + rest;
-        StoneWalk x = new StoneWalk();
-        Check.due(x, "island() of " + text, Check.tell(x, text), -1, Check.FAULT);
-        Check.due("fault() of " + text, x.fault(), number);
-        Check.due("where() of " + text, x.where(), front.length());
-    }
-
-    private static void sound(String text) {
-        StoneWalk x = new StoneWalk();
-        Check.tell(x, text);
-        Check.due("fault() of " + text, x.fault(), 0);
-        Check.due("trouble() of " + text, x.trouble(), 0);
-    }
-
     private static void tokens() {
-        sound("  " + LEAST.replace(" ", "   ").replace(",", " , ").replace(";", " ; ") + "  ");
-        sound("way w sled weighs1pull1;road r hollow1slopes up1,down2;statue a tons1lean1edge1cut");
-        sound(LEAST + ";way abcdefgh walked weighs 001 pull 07");
-        fault(1, "way ", "abcdefghi sled");
-        fault(1, "way w sled weighs ", "0001 pull 1");
-        fault(1, "", "Way w");
-        fault(1, "way w", "\u0001");
-        fault(1, "way w sled", ".");
-        fault(1, "way w sled weighs 1 ", "\n");
-        fault(1, "way w sled weighs ", "-1");
-        fault(1, "way w sled weighs 1 pull 1 ", "{");
-        fault(1, "way w sled weighs 1 pull 1 ", "`");
-        fault(1, "way w sled weighs 1 pull 1 ", "/");
-        fault(1, "way w sled weighs 1 pull 1 ", ":");
-        fault(1, "way w sled weighs 1 pull 1 ", "\u00e9");
+        Text.sound("  " + LEAST.replace(" ", "   ").replace(",", " , ").replace(";", " ; ") + "  ");
+        Text.sound("way w sled weighs1pull1;road r hollow1slopes up1,down2;statue a tons1lean1edge1cut");
+        Text.sound(LEAST + ";way abcdefgh walked weighs 001 pull 07");
+        Text.fault(1, "way ", "abcdefghi sled");
+        Text.fault(1, "way w sled weighs ", "0001 pull 1");
+        Text.fault(1, "", "Way w");
+        Text.fault(1, "way w", "\u0001");
+        Text.fault(1, "way w sled", ".");
+        Text.fault(1, "way w sled weighs 1 ", "\n");
+        Text.fault(1, "way w sled weighs ", "-1");
+        Text.fault(1, "way w sled weighs 1 pull 1 ", "{");
+        Text.fault(1, "way w sled weighs 1 pull 1 ", "`");
+        Text.fault(1, "way w sled weighs 1 pull 1 ", "/");
+        Text.fault(1, "way w sled weighs 1 pull 1 ", ":");
+        Text.fault(1, "way w sled weighs 1 pull 1 ", "\u00e9");
     }
 
     private static void form() {
-        fault(1, "", "w sled");
-        fault(1, "", ";");
-        fault(1, "", "5");
-        fault(1, "way ", "5");
-        fault(1, "way w ", "w");
-        fault(1, "way w sled ", "pull");
-        fault(1, "way w sled weighs ", "pull");
-        fault(1, "way w sled weighs 1 ", "weighs");
-        fault(1, "way w sled weighs 1 pull 1 ", "pull");
-        fault(1, "way w sled weighs 1 pull 1 ", ",");
-        fault(1, "way w sled weighs 1 pull 1 ", "1");
-        fault(1, LEAST + ";", "");
-        fault(1, LEAST + ";  ", "");
-        fault(1, LEAST + ";", ";" + "way v sled weighs 1 pull 1");
-        fault(1, "road r ", "slopes");
-        fault(1, "road r hollow 1 ", "up");
-        fault(1, "road r hollow 1 slopes ", "level 1");
-        fault(1, "road r hollow 1 slopes up 1,", ";");
-        fault(1, "road r hollow 1 slopes up 1 ", "up 1");
-        fault(1, LEAST + ";statue b tons 1 lean 1 edge 1 ", "fallen");
-        fault(1, LEAST + ";statue b tons 1 lean 1 edge 1 lies ", "up");
-        fault(1, LEAST + ";statue b tons 1 lean 1 edge 1 lies face ", "at");
-        fault(1, LEAST + ";statue b tons 1 lean 1 edge 1 lies face on r ", "on");
-        fault(1, LEAST + ";statue b tons 1 lean 1 edge 1 lies face on r at ", "r");
-        fault(1, LEAST + ";statue b tons 1 lean 1 ", "tons");
-        fault(1, LEAST + ";trial t ", "tons");
-        fault(1, LEAST + ";trial t of ", "1");
-        fault(1, LEAST + ";trial t of w tons 1 people 1 ", "minutes");
-        fault(1, LEAST + ";land ", "1");
-        fault(1, LEAST + ";land trees 1 grows 1 ", "feeds");
-        fault(1, LEAST + ";fields ", "feeds");
-        fault(1, LEAST + ";fields 1 ", "holds");
-        fault(1, LEAST + ";houses 1 holds 1 ", "2");
-        fault(1, LEAST + ";houses 1 holds 1 to ", "to");
-        fault(1, LEAST + ";story s weighs 1 ", "burnt");
-        fault(1, LEAST + ";story s weighs 1 rats ", "every");
-        fault(1, LEAST + ";story s weighs 1 rats 1 ", "every 1");
-        fault(1, LEAST + ";story s weighs 1 fires 1", "");
-        fault(1, LEAST + ";teller o year ", "means");
-        fault(1, LEAST + ";teller o year 1 means ", "stranger");
-        fault(1, LEAST + ";teller o year 1 means w ", "w");
-        fault(1, LEAST + ";teller o year 1 means w stranger ", ",w");
-        fault(1, LEAST + ";teller o year 1 means w,", "");
-        fault(1, LEAST + ";try p tons 1 lean 1 edge 1 ", "cut");
-        fault(1, LEAST + ";try p tons 1 lean 1 edge 1 up 1", ",up 1");
-        sound(LEAST + ";teller o year 0 means w stranger;teller p year 999 means w");
+        Text.fault(1, "", "w sled");
+        Text.fault(1, "", ";");
+        Text.fault(1, "", "5");
+        Text.fault(1, "way ", "5");
+        Text.fault(1, "way w ", "w");
+        Text.fault(1, "way w sled ", "pull");
+        Text.fault(1, "way w sled weighs ", "pull");
+        Text.fault(1, "way w sled weighs 1 ", "weighs");
+        Text.fault(1, "way w sled weighs 1 pull 1 ", "pull");
+        Text.fault(1, "way w sled weighs 1 pull 1 ", ",");
+        Text.fault(1, "way w sled weighs 1 pull 1 ", "1");
+        Text.fault(1, LEAST + ";", "");
+        Text.fault(1, LEAST + ";  ", "");
+        Text.fault(1, LEAST + ";", ";" + "way v sled weighs 1 pull 1");
+        Text.fault(1, "road r ", "slopes");
+        Text.fault(1, "road r hollow 1 ", "up");
+        Text.fault(1, "road r hollow 1 slopes ", "level 1");
+        Text.fault(1, "road r hollow 1 slopes up 1,", ";");
+        Text.fault(1, "road r hollow 1 slopes up 1 ", "up 1");
+        Text.fault(1, LEAST + ";statue b tons 1 lean 1 edge 1 ", "fallen");
+        Text.fault(1, LEAST + ";statue b tons 1 lean 1 edge 1 lies ", "up");
+        Text.fault(1, LEAST + ";statue b tons 1 lean 1 edge 1 lies face ", "at");
+        Text.fault(1, LEAST + ";statue b tons 1 lean 1 edge 1 lies face on r ", "on");
+        Text.fault(1, LEAST + ";statue b tons 1 lean 1 edge 1 lies face on r at ", "r");
+        Text.fault(1, LEAST + ";statue b tons 1 lean 1 ", "tons");
+        Text.fault(1, LEAST + ";trial t ", "tons");
+        Text.fault(1, LEAST + ";trial t of ", "1");
+        Text.fault(1, LEAST + ";trial t of w tons 1 people 1 ", "minutes");
+        Text.fault(1, LEAST + ";land ", "1");
+        Text.fault(1, LEAST + ";land trees 1 grows 1 ", "feeds");
+        Text.fault(1, LEAST + ";fields ", "feeds");
+        Text.fault(1, LEAST + ";fields 1 ", "holds");
+        Text.fault(1, LEAST + ";houses 1 holds 1 ", "2");
+        Text.fault(1, LEAST + ";houses 1 holds 1 to ", "to");
+        Text.fault(1, LEAST + ";story s weighs 1 ", "burnt");
+        Text.fault(1, LEAST + ";story s weighs 1 rats ", "every");
+        Text.fault(1, LEAST + ";story s weighs 1 rats 1 ", "every 1");
+        Text.fault(1, LEAST + ";story s weighs 1 fires 1", "");
+        Text.fault(1, LEAST + ";teller o year ", "means");
+        Text.fault(1, LEAST + ";teller o year 1 means ", "stranger");
+        Text.fault(1, LEAST + ";teller o year 1 means w ", "w");
+        Text.fault(1, LEAST + ";teller o year 1 means w stranger ", ",w");
+        Text.fault(1, LEAST + ";teller o year 1 means w,", "");
+        Text.fault(1, LEAST + ";try p tons 1 lean 1 edge 1 ", "cut");
+        Text.fault(1, LEAST + ";try p tons 1 lean 1 edge 1 up 1", ",up 1");
+        Text.sound(LEAST + ";teller o year 0 means w stranger;teller p year 999 means w");
     }
 
     private static void names() {
         String[] taken = {"way", "road", "statue", "trial", "land", "fields", "houses", "story",
             "teller", "try", "up", "down", "stranger"};
         for (String word : taken) {
-            fault(1, "way ", word + " sled");
-            fault(1, LEAST + ";trial t of ", word);
+            Text.fault(1, "way ", word + " sled");
+            Text.fault(1, LEAST + ";trial t of ", word);
         }
         String[] free = {"walked", "sled", "weighs", "pull", "hollow", "slopes", "tons", "lean",
             "edge", "cut", "lies", "face", "on", "at", "of", "to", "year", "means", "rats"};
         for (String word : free) {
-            sound(LEAST + ";way " + word + " walked weighs 1 pull 1;trial t of " + word
+            Text.sound(LEAST + ";way " + word + " walked weighs 1 pull 1;trial t of " + word
                 + " tons 1 people 1 yards 1 minutes 1");
         }
-        fault(2, LEAST + ";trial t of ", "v tons 1");
-        fault(2, LEAST + ";trial t of ", "r tons 1");
-        fault(2, LEAST + ";trial t of ", "t tons 1");
-        fault(2, LEAST + ";teller o year 1 means ", "a");
-        fault(2, LEAST + ";teller o year 1 means w,", "b");
-        fault(2, "statue a tons 1 lean 1 edge 1 lies face on ", "r at 0");
-        fault(2, LEAST + ";statue b tons 1 lean 1 edge 1 lies face on ", "w at 0");
+        Text.fault(2, LEAST + ";trial t of ", "v tons 1");
+        Text.fault(2, LEAST + ";trial t of ", "r tons 1");
+        Text.fault(2, LEAST + ";trial t of ", "t tons 1");
+        Text.fault(2, LEAST + ";teller o year 1 means ", "a");
+        Text.fault(2, LEAST + ";teller o year 1 means w,", "b");
+        Text.fault(2, "statue a tons 1 lean 1 edge 1 lies face on ", "r at 0");
+        Text.fault(2, LEAST + ";statue b tons 1 lean 1 edge 1 lies face on ", "w at 0");
         // Told ahead of its use, not behind it.
-        fault(2, "trial t of ", "w tons 1;way w sled weighs 1 pull 1");
-        fault(3, LEAST + ";way ", "w sled");
-        fault(3, LEAST + ";road ", "w");
-        fault(3, LEAST + ";statue ", "r");
-        fault(3, LEAST + ";trial ", "a");
-        fault(3, LEAST + ";story ", "w");
-        fault(3, LEAST + ";teller ", "w");
-        fault(3, LEAST + ";try ", "a");
-        fault(3, LEAST + ";teller o year 1 means w,", "w");
-        fault(3, LEAST + ";way v sled weighs 1 pull 1;teller o year 1 means v,w,", "v");
+        Text.fault(2, "trial t of ", "w tons 1;way w sled weighs 1 pull 1");
+        Text.fault(3, LEAST + ";way ", "w sled");
+        Text.fault(3, LEAST + ";road ", "w");
+        Text.fault(3, LEAST + ";statue ", "r");
+        Text.fault(3, LEAST + ";trial ", "a");
+        Text.fault(3, LEAST + ";story ", "w");
+        Text.fault(3, LEAST + ";teller ", "w");
+        Text.fault(3, LEAST + ";try ", "a");
+        Text.fault(3, LEAST + ";teller o year 1 means w,", "w");
+        Text.fault(3, LEAST + ";way v sled weighs 1 pull 1;teller o year 1 means v,w,", "v");
         String ways = "way v sled weighs 1 pull 1;way u sled weighs 1 pull 1;"
             + "way x sled weighs 1 pull 1;teller o year 1 means v,w,x,u";
-        sound(LEAST + ";" + ways);
-        fault(3, LEAST + ";" + ways + ",", "w");
-        fault(2, LEAST + ";" + ways + ",", "a");
-        fault(3, LEAST + ";land trees 1 grows 1 people 1;", "land");
-        fault(3, LEAST + ";fields 1 feeds 1;", "fields");
-        fault(3, LEAST + ";houses 1 holds 1 to 1;", "houses");
-        sound(LEAST + ";way abcdefg walked weighs 1 pull 1;way abcdefh walked weighs 1 pull 1");
-    }
-
-    /** A WHOLE from low to high stands between two parts of a text. */
-    private static void bounded(String front, int low, int high, String behind) {
-        sound(LEAST + ";" + front + low + behind);
-        sound(LEAST + ";" + front + high + behind);
-        if (low > 0) {
-            fault(4, LEAST + ";" + front, low - 1 + behind);
-        }
-        if (high < 999) {
-            fault(4, LEAST + ";" + front, high + 1 + behind);
-        }
-    }
-
-    private static void bounds() {
-        bounded("way v sled weighs ", 1, 99, " pull 1");
-        bounded("way v sled weighs 1 pull ", 1, 20, "");
-        bounded("road q hollow ", 0, 9, " slopes up 1");
-        bounded("road q hollow 1 slopes up ", 0, 20, "");
-        bounded("road q hollow 1 slopes up 1, down ", 0, 20, "");
-        bounded("statue b tons ", 1, 99, " lean 1 edge 1 cut");
-        bounded("statue b tons 1 lean ", 0, 30, " edge 1 cut");
-        bounded("statue b tons 1 lean 1 edge ", 0, 20, " cut");
-        bounded("statue b tons 1 lean 1 edge 1 lies side on r at ", 0, 1, "");
-        bounded("road q hollow 1 slopes up 1,up 1,up 1,up 1,up 1,up 1;"
-            + "statue b tons 1 lean 1 edge 1 lies side on q at ", 0, 5, "");
-        bounded("trial t of w tons ", 1, 99, " people 1 yards 1 minutes 1");
-        bounded("trial t of w tons 1 people ", 1, 200, " yards 1 minutes 1");
-        bounded("trial t of w tons 1 people 1 yards ", 1, 999, " minutes 1");
-        bounded("trial t of w tons 1 people 1 yards 1 minutes ", 1, 999, "");
-        bounded("land trees ", 0, 999, " grows 1 people 1");
-        bounded("land trees 1 grows ", 0, 50, " people 1");
-        bounded("land trees 1 grows 1 people ", 0, 999, "");
-        bounded("fields ", 0, 999, " feeds 1");
-        bounded("fields 1 feeds ", 0, 99, "");
-        bounded("houses ", 0, 999, " holds 1 to 1");
-        bounded("houses 1 holds ", 0, 20, " to 40");
-        bounded("houses 1 holds 7 to ", 7, 40, "");
-        bounded("story s weighs ", 1, 99, " rats 1");
-        bounded("story s weighs 1 felled ", 0, 99, "");
-        bounded("story s weighs 1 rats ", 0, 100, "");
-        bounded("story s weighs 1 fires ", 0, 100, " every 1");
-        bounded("story s weighs 1 fires 1 every ", 1, 50, "");
-        bounded("teller o year ", 0, 999, " means w");
-        bounded("try p tons ", 1, 99, " lean 1 edge 1 up 1");
-        bounded("try p tons 1 lean ", 0, 30, " edge 1 up 1");
-        bounded("try p tons 1 lean 1 edge ", 0, 20, " up 1");
-        bounded("try p tons 1 lean 1 edge 1 up ", 0, 20, "");
-        bounded("try p tons 1 lean 1 edge 1 down ", 0, 20, "");
-    }
-
-    /** So many LINES beside the least text, then one more of them; "#" is a NAME. */
-    private static void room(int more, String line) {
-        StringBuilder text = new StringBuilder(LEAST);
-        for (int i = 0; i < more; i++) {
-            text.append(';').append(line.replace('#', (char) ('f' + i)));
-        }
-        sound(text.toString());
-        fault(5, text + ";", line.substring(0, line.indexOf(' ')));
-    }
-
-    private static void many() {
-        room(3, "way # sled weighs 1 pull 1");
-        room(2, "road # hollow 1 slopes up 1");
-        room(9, "statue # tons 1 lean 1 edge 1 cut");
-        room(5, "trial # of w tons 1 people 1 yards 1 minutes 1");
-        room(5, "story # weighs 1 rats 1");
-        room(3, "teller # year 1 means w");
-        room(5, "try # tons 1 lean 1 edge 1 up 1");
-        String six = ";road q hollow 1 slopes up 1,up 1,up 1,up 1,up 1,up 1";
-        sound(LEAST + six);
-        fault(5, LEAST + six + ",", "up 1");
-        fault(5, LEAST + six + ",", "down 1");
-        fault(1, LEAST + six + ",", "cut");
-        StringBuilder eight = new StringBuilder(LEAST);
-        for (int i = 0; i < 8; i++) {
-            eight.append(";statue ").append((char) ('f' + i));
-            eight.append(" tons 1 lean 1 edge 1 lies face on r at 0");
-        }
-        sound(eight.toString());
-        sound(eight + ";statue s tons 1 lean 1 edge 1 stood");
-        fault(5, eight + ";statue s tons 1 lean 1 edge 1 ", "lies face on r at 0");
-        fault(1, eight + ";statue s tons 1 lean 1 edge 1 ", "lay");
+        Text.sound(LEAST + ";" + ways);
+        Text.fault(3, LEAST + ";" + ways + ",", "w");
+        Text.fault(2, LEAST + ";" + ways + ",", "a");
+        Text.fault(3, LEAST + ";land trees 1 grows 1 people 1;", "land");
+        Text.fault(3, LEAST + ";fields 1 feeds 1;", "fields");
+        Text.fault(3, LEAST + ";houses 1 holds 1 to 1;", "houses");
+        Text.sound(LEAST + ";way abcdefg walked weighs 1 pull 1;way abcdefh walked weighs 1 pull 1");
     }
 
     private static void lacks() {
         String way = "way w sled weighs 1 pull 1";
         String road = "road r hollow 1 slopes up 1";
         String statue = "statue a tons 1 lean 1 edge 1 cut";
-        fault(6, road + ";" + statue, "");
-        fault(6, way + ";" + statue, "");
-        fault(6, way + ";" + road + "   ", "");
-        fault(6, "land trees 1 grows 1 people 1", "");
-        sound(statue + ";" + road + ";" + way);
+        Text.fault(6, road + ";" + statue, "");
+        Text.fault(6, way + ";" + statue, "");
+        Text.fault(6, way + ";" + road + "   ", "");
+        Text.fault(6, "land trees 1 grows 1 people 1", "");
+        Text.sound(statue + ";" + road + ";" + way);
     }
 
     private static void leastNumber() {
         // The first from the left, whatever its number.
-        fault(4, "way w sled weighs ", "0 pull 1; !");
-        fault(6, "way w sled weighs 1 pull 1", "");
-        fault(1, "way w sled weighs 1 pull", "");
-        fault(1, "way w sled weighs 1 pull 1;", "");
-        fault(3, "way w sled weighs 1 pull 1;way ", "w flown");
+        Text.fault(4, "way w sled weighs ", "0 pull 1; !");
+        Text.fault(6, "way w sled weighs 1 pull 1", "");
+        Text.fault(1, "way w sled weighs 1 pull", "");
+        Text.fault(1, "way w sled weighs 1 pull 1;", "");
+        Text.fault(3, "way w sled weighs 1 pull 1;way ", "w flown");
     }
 
     /** LINES in another order than the document's, but for NAMES, told ahead of their use. */
@@ -370,7 +268,7 @@ public final class TextTest {
         Check.due(x, "weight()", x.weight(), 8, 0);
         Check.due(x, "tryout()", x.tryout(), 0, 0);
         Check.due(x, "lived(true)", x.lived(true), 6, 0);
-        sound(LEAST + ";teller o year 1 means w;story s weighs 8 rats 9;houses 3 holds 1 to 2");
+        Text.sound(LEAST + ";teller o year 1 means w;story s weighs 8 rats 9;houses 3 holds 1 to 2");
         // Only one road, one teller, one way, and so on: what is next isn't there.
         Check.due(x, "canOn(0, 0, 1)", x.canOn(0, 0, 1), -1, Check.NO_SUCH);
         Check.due(x, "easiest(0, 1)", x.easiest(0, 1), -1, Check.NO_SUCH);
