@@ -159,8 +159,8 @@ public final class GoingTest {
     }
 
     private static void chance() {
-        StoneWalk x = Check.told(Check.WHOLE_ISLAND);
         for (int s = -20; s <= 20; s++) {
+            StoneWalk x = Check.told(Check.WHOLE_ISLAND);
             int steep = s < 0 ? -s : s;
             String call = " on " + s;
             Check.due(x, "walked, edge 6" + call, x.chance(WALKED, A, s), 2 * steep + 4, 0);
@@ -170,6 +170,7 @@ public final class GoingTest {
             Check.due(x, "rolled" + call, x.chance(ROLLED, C, s), 3 * steep, 0);
             Check.due(x, "dragged" + call, x.chance(DRAGGED, C, s), 0, 0);
         }
+        StoneWalk x = Check.told(Check.WHOLE_ISLAND);
         Check.due(x, "chance(0, 0, 21)", x.chance(0, 0, 21), -1, Check.NUMBER);
         Check.due(x, "chance(0, 0, -21)", x.chance(0, 0, -21), -1, Check.NUMBER);
         Check.due(x, "chance(4, 0, 0)", x.chance(4, 0, 0), -1, Check.NO_SUCH);

@@ -103,7 +103,7 @@ public final class RefusalTest {
     }
 
     private static void states() {
-        int[] told = {-1, -1, -1, -1, -1, -1, -1, -1, 1, 1, 2, 3, 4, 5, 1, 1, 1, -1};
+        int[] told = {-1, -1, -1, -1, -1, -1, -1, -1, -1, -1, -1, 1, 1, 2, 3, 4, 5, 1, 1, 1, -1};
         for (State s : State.values()) {
             StoneWalk x = s.make();
             Check.due("at(0) in state " + s, x.at(0), told[s.ordinal()]);
@@ -112,7 +112,7 @@ public final class RefusalTest {
                 Check.due("size(" + what + ") in state " + s, x.size(what), s.many(what));
             }
             Check.due("size(9) in state " + s, x.size(9), s.held());
-            Check.due("seen in state " + s, x.size(7), s == State.SEEN ? 12 : s == State.KEPT ? 1 : 0);
+            Check.due("seen in state " + s, x.size(7), s.seen());
             boolean faulty = s == State.FAULTY || s == State.KEPT;
             Check.due("fault() in state " + s, x.fault(), faulty ? 4 : 0);
         }
@@ -327,6 +327,8 @@ public final class RefusalTest {
             int t = statue;
             each("lies() of one that doesn't", -1, s -> Check.NO_SUCH, x -> x.lies(0, t));
         }
+        each("lies() of the first that doesn't", -1, s -> s.firstLies() ? 0 : Check.NO_SUCH,
+            x -> x.lies(0, 0));
         each("changed()", -1000,
             s -> !s.hasIsland() ? Check.NO_SUCH : s.isWhole() ? 0 : Check.NOTHING,
             StoneWalk::changed);
@@ -346,7 +348,7 @@ public final class RefusalTest {
             each("turn(1, " + lie + ")", 0, s -> s.isWhole() ? Check.NOT_SO : Check.NO_SUCH,
                 x -> bit(x.turn(1, way)));
             each("turn(0, " + lie + ")", 0,
-                s -> !s.hasIsland() ? Check.NO_SUCH : s.isWhole() ? 0 : Check.NOT_SO,
+                s -> !s.hasIsland() ? Check.NO_SUCH : s.firstLies() ? 0 : Check.NOT_SO,
                 x -> bit(x.turn(0, way)));
         }
     }
@@ -371,7 +373,7 @@ public final class RefusalTest {
             each("takes() by a way without one", -1,
                 s -> s.isWhole() ? Check.NOTHING : Check.NO_SUCH, x -> x.takes(2, 1, most));
         }
-        each("enough() without land", -1, RefusalTest::withoutTrial, x -> x.enough(0));
+        each("enough() without land", -1, RefusalTest::withoutLand, x -> x.enough(0));
         each("enough() of none", -1, s -> Check.NO_SUCH, x -> x.enough(9));
     }
 
@@ -380,16 +382,30 @@ public final class RefusalTest {
         return !s.hasIsland() ? Check.NO_SUCH : s.isWhole() ? 0 : Check.NOTHING;
     }
 
+    private static int withoutLand(State s) {
+        return !s.hasIsland() ? Check.NO_SUCH : s.hasLand() ? 0 : Check.NOTHING;
+    }
+
+    /** Of the story 0: 1 if there is none, 6 if there is no land. */
+    private static int withoutStory(State s) {
+        return !s.hasStory() ? Check.NO_SUCH : s.hasLand() ? 0 : Check.NOTHING;
+    }
+
     /** Promises 37, 40 to 44. */
     private static void trees() {
         for (int year : new int[] {-1, 100, MIN, MAX}) {
-            each("trees(0, " + year + ")", -1, s -> s.isWhole() ? Check.NUMBER : Check.NO_SUCH,
+            each("trees(0, " + year + ")", -1, s -> s.hasStory() ? Check.NUMBER : Check.NO_SUCH,
                 x -> x.trees(0, year));
             each("trees(9, " + year + ")", -1, s -> Check.NO_SUCH, x -> x.trees(9, year));
         }
-        each("fits() without land", -1, RefusalTest::withoutTrial, StoneWalk::fits);
-        each("weight() without land", -1, RefusalTest::withoutTrial, StoneWalk::weight);
-        each("dig() without land", -1, RefusalTest::withoutTrial, StoneWalk::dig);
+        each("trees(0, 0) without land", -1, RefusalTest::withoutStory, x -> x.trees(0, 0));
+        each("trees(0, 99) without land", -1, RefusalTest::withoutStory, x -> x.trees(0, 99));
+        each("gone(0) without land", -1, RefusalTest::withoutStory, x -> x.gone(0));
+        each("fits() without land", -1, RefusalTest::withoutLand, StoneWalk::fits);
+        each("weight() without land", -1, RefusalTest::withoutLand, StoneWalk::weight);
+        each("dig() without land or fits", -1,
+            s -> withoutLand(s) != 0 ? withoutLand(s)
+                : s == State.STOOD || s == State.NO_FITS ? Check.NOTHING : 0, StoneWalk::dig);
         each("lived(false) without fields", -1, RefusalTest::withoutTrial, x -> x.lived(false));
         each("lived(true) without fields", -1, RefusalTest::withoutTrial, x -> x.lived(true));
     }

@@ -17,6 +17,7 @@ public final class RestEdgeTest {
         statueOfEach();
         statueOfNone();
         troubleOfTheLatest();
+        askingChangesNothing();
         troubleOfEachNumber();
         allOfTheCalls();
         Check.end("RestEdgeTest");
@@ -152,7 +153,9 @@ public final class RestEdgeTest {
             for (int what = 0; what <= 6; what++) {
                 Check.due("size(" + what + ") in state " + s, x.size(what), s.many(what));
             }
-            Check.due("size(10) in state " + s, x.size(10), s.isWhole() ? 1 : 0);
+            Check.due("size(7) in state " + s, x.size(7), s.seen());
+            Check.due("size(9) in state " + s, x.size(9), s.held());
+            Check.due("size(10) in state " + s, x.size(10), s.firstLies() ? 1 : 0);
             Check.due("trouble() in state " + s, x.trouble(), trouble);
         }
     }
@@ -272,6 +275,44 @@ public final class RestEdgeTest {
                 x.island(-1);
                 x.lived(true);
             }
+        }
+    }
+
+    /** A call that only tells changes nothing, in whatever state. */
+    private static void askingChangesNothing() {
+        for (State s : State.values()) {
+            for (int which = 0; which < 36; which++) {
+                boolean changes = which >= 8 && which <= 11 || which == 13 || which == 15 || which == 33;
+                if (changes || which == 24) {
+                    continue;
+                }
+                StoneWalk x = s.make();
+                StoneWalk twin = s.make();
+                ask(x, which);
+                ask(x, which);
+                String what = "call " + which + " in state " + s;
+                Check.due("fault() behind " + what, x.fault(), twin.fault());
+                Check.same("all behind " + what, State.show(x), State.show(twin));
+                Check.same("the tape behind " + what, State.showTape(x), State.showTape(twin));
+            }
+        }
+    }
+
+    private static void ask(StoneWalk x, int which) {
+        if (which == 35) {
+            x.fits();
+            x.weight();
+            x.gone(0);
+            x.lived(true);
+            x.lived(false);
+            led(x, 0, 0);
+            x.size(0);
+            x.statue(0, 0);
+            x.trouble();
+            x.where();
+            x.fault();
+        } else {
+            grantedCall(x, which);
         }
     }
 

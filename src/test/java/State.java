@@ -10,11 +10,17 @@ enum State {
     FAULTY,
     /** One way, one road, one statue, and nothing that may be left out. */
     LEAST,
+    /** A story and fields, but no land and no houses; one lies, and none stood. */
+    LANDLESS,
+    /** Land and houses, but no story and no fields; one stood, and none lies. */
+    STOOD,
     /** Something of each sort of LINE. */
     WHOLE,
     TAPED_WHOLE,
     /** No room left for what is SEEN. */
     SEEN,
+    /** What was SEEN fits none of the stories. */
+    NO_FITS,
     BEGUN,
     UNDER_WAY,
     THERE,
@@ -40,6 +46,12 @@ enum State {
         + "land trees 100 grows 4 people 50;fields 10 feeds 6;houses 5 holds 4 to 10;"
         + "story s weighs 3 felled 10;story u weighs 5 rats 50;"
         + "teller o year 722 means w;try p tons 5 lean 10 edge 5 up 4";
+    private static final String LANDLESS_TEXT =
+        "way w sled weighs 1 pull 1;road r hollow 1 slopes up 1;"
+        + "statue a tons 1 lean 1 edge 1 lies face on r at 0;fields 1 feeds 1;story s weighs 1 rats 1";
+    private static final String STOOD_TEXT =
+        "way w sled weighs 1 pull 1;road r hollow 1 slopes up 1;statue a tons 1 lean 1 edge 1 stood;"
+        + "houses 1 holds 1 to 1;land trees 1 grows 1 people 1";
     /** A WHOLE out of bounds, at byte 20. */
     static final String FAULTY_TEXT = "way w walked weighs 0 pull 1";
 
@@ -49,6 +61,7 @@ enum State {
 
     private static final int[] NONE_THERE = {0, 0, 0, 0, 0, 0, 0};
     private static final int[] LEAST_THERE = {1, 1, 1, 0, 0, 0, 0};
+    private static final int[] LANDLESS_THERE = {1, 1, 1, 0, 1, 0, 0};
     private static final int[] WHOLE_THERE = {3, 2, 3, 1, 2, 1, 1};
 
     boolean hasIsland() {
@@ -57,7 +70,27 @@ enum State {
 
     /** Whether it has what may be left out: land, fields, houses, stories, trials. */
     boolean isWhole() {
-        return hasIsland() && this != LEAST && this != REPLACED;
+        return ordinal() >= WHOLE.ordinal() && this != REPLACED;
+    }
+
+    boolean hasLand() {
+        return isWhole() || this == STOOD;
+    }
+
+    boolean hasStory() {
+        return isWhole() || this == LANDLESS;
+    }
+
+    /** Whether statue 0 lies. */
+    boolean firstLies() {
+        return isWhole() || this == LANDLESS;
+    }
+
+    int seen() {
+        if (this == SEEN) {
+            return 12;
+        }
+        return this == NO_FITS || this == KEPT ? 1 : 0;
     }
 
     boolean hasMove() {
@@ -78,6 +111,9 @@ enum State {
         if (!hasIsland()) {
             return NONE_THERE[what];
         }
+        if (this == LANDLESS) {
+            return LANDLESS_THERE[what];
+        }
         return isWhole() ? WHOLE_THERE[what] : LEAST_THERE[what];
     }
 
@@ -90,12 +126,8 @@ enum State {
 
     StoneWalk make() {
         StoneWalk x = new StoneWalk();
-        if (this == FAULTY) {
-            Check.tell(x, FAULTY_TEXT);
-        } else if (this == LEAST) {
-            Check.tell(x, LEAST_TEXT);
-        } else if (hasIsland()) {
-            Check.tell(x, WHOLE_TEXT);
+        if (this == FAULTY || hasIsland()) {
+            Check.tell(x, text());
         }
         for (int i = 0; i < held(); i += 20) {
             Check.feed(x, "way w sled weighs 1;");
@@ -107,8 +139,19 @@ enum State {
         return x;
     }
 
+    private String text() {
+        return switch (this) {
+            case FAULTY -> FAULTY_TEXT;
+            case LEAST -> LEAST_TEXT;
+            case LANDLESS -> LANDLESS_TEXT;
+            case STOOD -> STOOD_TEXT;
+            default -> WHOLE_TEXT;
+        };
+    }
+
     private void go(StoneWalk x) {
         switch (this) {
+            case NO_FITS -> x.see(0, 0, 0);
             case SEEN -> seeAll(x);
             case BEGUN -> x.move(0, SLED, 0, 100);
             case UNDER_WAY -> steps(x, SLED, 100, 1);

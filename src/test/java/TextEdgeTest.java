@@ -31,6 +31,7 @@ public final class TextEdgeTest {
         namesThatAreNone();
         toldOnceAheadOfUse();
         eachWordWhereItStands();
+        noWholeIsAWord();
         theEndIsAPlace();
         lacks();
         firstFromTheLeft();
@@ -562,6 +563,24 @@ public final class TextEdgeTest {
             if (inWord(first) && !word.equals("stranger")) {
                 Text.fault(1, front, ",");
                 Text.fault(1, front, ";");
+            }
+        }
+    }
+
+    /** A WHOLE is no WORD, whatever it is: neither one of the language nor a NAME. */
+    private static void noWholeIsAWord() {
+        String[] fronts = {"", "way ", "way w ", "road r hollow 1 slopes ", LEAST + ";trial t ",
+            LEAST + ";trial t of ", LEAST + ";statue b tons 1 lean 1 edge 1 ",
+            LEAST + ";statue b tons 1 lean 1 edge 1 lies face ",
+            LEAST + ";statue b tons 1 lean 1 edge 1 lies face on ",
+            LEAST + ";statue b tons 1 lean 1 edge 1 lies face on r ",
+            LEAST + ";houses 1 holds 1 ", LEAST + ";teller o year 1 means "};
+        for (String front : fronts) {
+            for (int whole = 0; whole <= 999; whole++) {
+                StoneWalk x = new StoneWalk();
+                Check.due(front + whole, Check.tell(x, front + whole + " w 1"), -1);
+                Check.due("fault() of " + front + whole, x.fault(), 1);
+                Check.due("where() of " + front + whole, x.where(), front.length());
             }
         }
     }
