@@ -1,6 +1,8 @@
 import java.util.ArrayList;
 import java.util.List;
+import java.util.Map;
 import java.util.NoSuchElementException;
+import java.util.TreeMap;
 
 /**
  * Runs of calls by a fixed row of numbers, of texts sound and faulty: each answer is compared with
@@ -19,6 +21,18 @@ public final class TwinTest {
     };
     private static final int[] ODD = {Integer.MIN_VALUE, -65537, -1000, -21, -20, -2, -1, 20, 21, 99, 100,
         101, 200, 201, 400, 401, 999, 1000, 9999, 10000, 65536, 65537, Integer.MAX_VALUE};
+    /** Which arguments are numbers of what size() counts: its number, a colon, calls and places. */
+    private static final String INDEXED =
+        "0: can0 canOn0 steepest0 need0 minutes0 chance0 lying0 move1 lies0 hollow0 shape0 told0 people0 "
+        + "takes0 wood0 enough0 led0 1: canOn2 easiest1 move2 hollow1 2: can1 canOn1 steepest1 need1 "
+        + "minutes1 chance1 easiest0 move0 lies1 turn0 statue0 3: off0 4: trees0 gone0 5: told1 ";
+    /** Each number of TROUBLE that a call can tell; 0 if it can be granted. */
+    private static final String TROUBLES =
+        "island 024, can 012, canOn 01, steepest 01, need 012, minutes 012, chance 012, lying 012, easiest 01, "
+        + "seed 012, move 012, step 056, call 0256, at 016, tries 026, image 06, restore 012, odds 01, "
+        + "likeliest 01, lies 01, hollow 01, shape 01, changed 016, told 01, turn 015, hangs 01, tryout 016, "
+        + "people 0126, takes 0126, off 01, wood 01, enough 016, trees 0126, see 0123, fits 016, weight 016, "
+        + "gone 016, dig 016, lived 016";
     private static final long[] BASES = {6, 7, 541, 4, 10, 4, 3, 201};
     private static final String[] WORDS = {"way", "road", "up", "lies", "stranger", "at", "w", "r", "land",
         "houses", "7", "0", "1000", "abcdefghi", ";", ",", ".", "to", "every", "try", "fields"};
@@ -29,7 +43,8 @@ public final class TwinTest {
     private static Twin twin;
     private static long image;
     private static final boolean[] faultsMet = new boolean[7];
-    private static final boolean[] troublesMet = new boolean[7];
+    /** Each call and TROUBLE behind it, how often; each answer of step(), too. */
+    private static final Map<String, Integer> met = new TreeMap<>();
     private static int sound;
 
     public static void main(String[] args) {
@@ -39,17 +54,29 @@ public final class TwinTest {
             twin = new Twin();
             calls = 0;
             image = -1;
-            boolean alike = run % 9 == 0 || tellBoth(run);
+            boolean alike = run % 19 == 0 || tellBoth(run);
             while (alike && calls + 60 < MOST_CALLS) {
-                alike = next(70) == 0 ? tellBoth(run) : same(run, call(run));
+                boolean bare = run % 19 != 0 && due("size", new int[] {2}, 0) == 0;
+                alike = next(bare ? 2 : 70) == 0 ? tellBoth(run) : same(run, call(run));
             }
         }
         for (int number = 1; number <= 6; number++) {
             Check.due("fault " + number + " was met", faultsMet[number], true);
-            Check.due("trouble " + number + " was met", troublesMet[number], true);
         }
-        Check.due("more than a third of the texts were sound: " + sound, sound > RUNS / 3, true);
+        Check.due("more than half as many sound texts as runs: " + sound, sound > RUNS / 2, true);
+        for (String row : TROUBLES.split(", ")) {
+            allMet(row.substring(0, row.indexOf(' ')), row.substring(row.indexOf(' ') + 1));
+        }
+        allMet("step()", "12345");
         Check.end("TwinTest");
+    }
+
+    /** A call was made so that trouble() told each of some numbers, and no other. */
+    private static void allMet(String call, String numbers) {
+        for (char number = '0'; number <= '9'; number++) {
+            boolean found = met.containsKey(call + " " + number);
+            Check.due(call + " " + number + " was met", found, numbers.indexOf(number) >= 0);
+        }
     }
 
     private static int next(int bound) {
@@ -64,13 +91,17 @@ public final class TwinTest {
 
     /** An argument that is often of use, at times at an edge or far off. */
     private static int argument(String call, int i) {
-        if (next(12) == 0) {
+        if (next(25) == 0) {
             return ODD[next(ODD.length)];
         }
         String kind = call + i;
+        int sort = INDEXED.indexOf(" " + kind + " ");
+        if (sort >= 0) {
+            return index(INDEXED.charAt(INDEXED.lastIndexOf(':', sort) - 1) - '0');
+        }
         switch (kind) {
             case "can2", "need2", "chance2", "minutes2", "lying1": return next(43) - 21;
-            case "minutes3", "move3", "call0": return next(202);
+            case "minutes3", "move3", "call0": return next(2) == 0 ? 200 - next(100) : next(202);
             case "see0", "trees1": return next(101);
             case "see1": return next(4) == 0 ? next(10001) : next(300);
             case "see2": return next(1001);
@@ -78,9 +109,19 @@ public final class TwinTest {
             case "people1": return 1 + next(next(3) == 0 ? 400 : 60);
             case "takes1": return next(10001);
             case "seed0": return next(65538);
-            case "island0", "size0", "at0": return next(12) - 1;
+            case "island0", "size0", "at0": return next(12) - (next(12) == 0 ? 1 : 0);
+            case "lying2", "turn1": return next(9) == 0 ? 3 : next(3);
+            case "odds0": return index(0) - (next(3) == 0 ? 1 : 0);
+            case "steepest2", "people2", "takes2", "lived0": return next(2);
+            case "statue1": return next(next(9) == 0 ? 8 : 7);
             default: return next(next(3) == 0 ? 11 : 4) - (next(12) == 0 ? 1 : 0);
         }
+    }
+
+    /** One of those that size() counts so, now and then the first behind them. */
+    private static int index(int what) {
+        int many = (int) due("size", new int[] {what}, 0);
+        return many == 0 || next(20) == 0 ? many : next(many);
     }
 
     private static long anImage() {
@@ -121,9 +162,11 @@ public final class TwinTest {
             && stone.where() == due("where", a, 0) && stone.fault() == due("fault", a, 0);
         Check.due(what + from, alike ? due : got, due);
         Check.due(what + from + " told alike", alike, true);
-        troublesMet[stone.trouble()] = true;
-        faultsMet[stone.fault()] = true;
-        calls += 2;
+        met.merge(call + " " + due("trouble", a, 0), 1, Integer::sum);
+        if (call.equals("step") && due > 0) {
+            met.merge("step() " + due, 1, Integer::sum);
+        }
+        faultsMet[(int) due("fault", a, 0)] = true;
         return alike;
     }
 
@@ -202,7 +245,7 @@ public final class TwinTest {
         String text = text();
         stone.island(stone.size(9));
         due("island", new int[] {(int) due("size", new int[] {9}, 0)}, 0);
-        calls += 2;
+        calls += 3;
         for (int i = 0; i < text.length(); i += 20) {
             int[] a = new int[5];
             for (int k = 0; k < 20; k++) {
